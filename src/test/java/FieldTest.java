@@ -26,7 +26,7 @@ public final class FieldTest {
         for (String name : wrong) {
             Check.due("name '" + name + "'", Check.field(x, -1, 0, 0, name), -1);
         }
-        String[] right = {"A0", "Z0", "a0", "z9", "select", "null", "count", "y_"};
+        String[] right = {"A0", "Z0", "aAZ", "zaz0", "select", "null", "count", "y_"};
         for (int i = 0; i < right.length; i++) {
             Check.due("name " + right[i], Check.field(x, -1, 0, 0, right[i]), 7 + i);
         }
