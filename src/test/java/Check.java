@@ -1,6 +1,7 @@
 /** What the tests share: texts instead of numbers for feed, and the count of wrong answers. */
 final class Check {
     private static int wrong = 0;
+    private static String sentence = "";
 
     private Check() {
     }
@@ -8,8 +9,13 @@ final class Check {
     static void due(String call, long got, long want) {
         if (got != want) {
             wrong++;
-            System.out.println(call + " answered " + got + ", due is " + want);
+            System.out.println(sentence + call + " answered " + got + ", due is " + want);
         }
+    }
+
+    /** The document's sentence that the next calls are about: it is told with each wrong answer. */
+    static void sentence(String words) {
+        sentence = "\"" + words + "\": ";
     }
 
     static void end() {
