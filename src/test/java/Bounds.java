@@ -16,13 +16,16 @@ final class Bounds {
         return x;
     }
 
-    /** The text falls at the mark; the query before stays as it was, and the tape is empty then. */
+    /** The text falls at the mark; the query before stays, the tape is empty, and a later query is read anew. */
     static void refused(String marked) {
         QueryText x = Check.withSchema();
         Check.stands(x, KEPT);
         Check.falls(x, marked);
         kept(x);
         emptyTape(x);
+        Check.stands(x, "select id where (id = 1 or not id = 2)");
+        row("counts of a later query", counts(x), 1, 0, 4, 2, 0);
+        Check.due("step(3, 0) of a later query", x.step(3, 0), 7);
     }
 
     /** The text falls at the mark; there was no query, and there is none. */

@@ -193,6 +193,10 @@ public final class BoundsOfQueryTest {
         Bounds.refused("select id where id = @null");
         Bounds.refused("select id where id = @(age)");
         Bounds.refused("select id where id = age @= 1");
+        Bounds.refused("select id where paid = @null");
+        Bounds.refused("select id where paid = @(true)");
+        Bounds.refused("select id where paid = @,");
+        Bounds.refused("select id where paid =@");
         Bounds.refused("select id where @4 = id");
         Bounds.refused("select id where paid @and id = 1");
         Bounds.refused("select id where not@");
@@ -226,6 +230,9 @@ public final class BoundsOfQueryTest {
         Bounds.refused("select id where id in (4, @age)");
         Bounds.refused("select id where id in (@(4))");
         Bounds.refused("select id where id in (4)@)");
+        Bounds.refused("select id where paid in (@)");
+        Bounds.refused("select id where paid in (true, @)");
+        Bounds.refused("select id where paid in (@null)");
     }
 
     private static void operators() {
@@ -423,6 +430,9 @@ public final class BoundsOfQueryTest {
                 + "@not id = 1)");
         Bounds.refused("select id where " + deep + " and " + "(".repeat(32) + "@(id = 1" + ")".repeat(33));
         Bounds.refused("select id where " + "(".repeat(32) + "id = 1 or id = 2 and @not id = 1" + ")".repeat(32));
+        // As much as can wait to be joined: the 33rd ( and the 65th STEP come only now.
+        Bounds.refused("select id where " + "id is null or id is null and (".repeat(32) + "@id is null");
+        Bounds.refused("select id where " + "id is null or id is null and (".repeat(32) + "@(id is null)");
     }
 
     private static void manySteps() {
