@@ -28,7 +28,8 @@ public final class BoundsOfCallsTest {
     }
 
     private static void lastCall() {
-        Check.sentence("An object is used for at most 512 calls");
+        Check.sentence("An object is used for at most 512 calls after it has been made; what later calls answer is "
+                + "free.");
         QueryText x = new QueryText();
         for (int i = 0; i < 100; i++) {
             Check.due("feed", x.feed(0, 0, 0, 0, 0) ? 1 : 0, 1);
@@ -44,7 +45,7 @@ public final class BoundsOfCallsTest {
     }
 
     private static void newObject() {
-        Check.sentence("QueryText(): No fields, an empty tape, no query");
+        Check.sentence("`QueryText()`: No fields, an empty tape, no query.");
         QueryText x = new QueryText();
         NewObjectTest.answersWithoutQuery(x);
         Bounds.emptyTape(x);
@@ -56,7 +57,8 @@ public final class BoundsOfCallsTest {
     }
 
     private static void feedBytes() {
-        Check.sentence("Twenty bytes come onto the tape: four in each number, the highest first");
+        Check.sentence("`boolean feed(int a, int b, int c, int d, int e)`: Twenty bytes come onto the tape: four in "
+                + "each number, the highest first");
         QueryText x = Check.withSchema();
         Check.due("feed", x.feed(0x73656c65, 0x63742069, 0x64207768, 0x65726520, 0x6e616d65) ? 1 : 0, 1);
         Check.due("feed", x.feed(0x3d270000, 0, 0, 0, 0) ? 1 : 0, 1);
@@ -91,7 +93,7 @@ public final class BoundsOfCallsTest {
     }
 
     private static void fieldNames() {
-        Check.sentence("its NAME is the first n bytes of the tape, which is empty then: its number");
+        Check.sentence("its NAME is the first n bytes of the tape, which is empty then: its number.");
         QueryText x = new QueryText();
         Check.feed(x, "abcdefghijklmnopqrst");
         Check.due("of 20 bytes the first", x.field(-1, 0, 1, 1), 0);
@@ -108,7 +110,7 @@ public final class BoundsOfCallsTest {
     }
 
     private static void fieldRefused() {
-        Check.sentence("NONE if there are 64, there is no such group, kind, TYPE, or it is no such NAME");
+        Check.sentence("NONE if there are 64, there is no such group, kind, TYPE, or it is no such NAME;");
         Check.due("the 65th", Check.field(Bounds.withFields(64, 0, 1), -1, 0, 1, "a"), -1);
         int[][] wrong = {{15, 0, 0}, {0, 0, 0}, {-2, 0, 0}, {-1, -1, 0}, {-1, 3, 0}, {-1, 0, -1}, {-1, 0, 5}};
         for (int[] w : wrong) {
@@ -154,7 +156,7 @@ public final class BoundsOfCallsTest {
     }
 
     private static void fieldDropsTheQuery() {
-        Check.sentence("Otherwise there is no query then");
+        Check.sentence("Otherwise there is no query then.");
         QueryText x = Check.withSchema();
         Check.stands(x, Bounds.KEPT);
         Check.due("a field", Check.field(x, -1, 0, 0, "fresh"), 15);
@@ -170,7 +172,7 @@ public final class BoundsOfCallsTest {
     }
 
     private static void fieldBeforeNone() {
-        Check.sentence("- 2 .. if there are not so many bytes: also where NONE would be due");
+        Check.sentence("- 2, and tape and query stay, if there are not so many bytes", "also where NONE would be due");
         QueryText x = Bounds.withFields(64, 0, 1);
         Check.stands(x, "select f1");
         Check.due("the 65th", x.field(-1, 0, 0, 1), -2);
@@ -181,7 +183,8 @@ public final class BoundsOfCallsTest {
     }
 
     private static void queryStands() {
-        Check.sentence("The first n bytes of the tape, which is empty then, are a QUERY: NONE if so");
+        Check.sentence("`int query(int n)`: The first n bytes of the tape, which is empty then, are a QUERY: NONE "
+                + "if so");
         QueryText x = Check.withSchema();
         Check.feed(x, "select id, age where");
         Check.due("9 of 20 bytes", x.query(9), -1);
@@ -218,7 +221,7 @@ public final class BoundsOfCallsTest {
     }
 
     private static void queryTooFewBytes() {
-        Check.sentence("- 2 as with field");
+        Check.sentence("- 2 as with field.");
         QueryText x = Check.withSchema();
         Check.stands(x, Bounds.KEPT);
         Check.feed(x, "select age          ");
@@ -234,7 +237,8 @@ public final class BoundsOfCallsTest {
     }
 
     private static void counts() {
-        Check.sentence("How many items (what 0) .. whether it COLLECTS (4); NONE for another what");
+        Check.sentence("`int count(int what)`: How many items (what 0), paths behind by (1), STEPS (2), literals "
+                + "(3) the query has, whether it COLLECTS (4); NONE for another what.");
         QueryText x = Bounds.taken("select id, age, id where id in (1, 2, 3, 4) group by age, id");
         Bounds.row("counts", Bounds.counts(x), 3, 2, 1, 4, 1);
         Check.due("count(5)", x.count(5), -1);
@@ -249,7 +253,7 @@ public final class BoundsOfCallsTest {
     }
 
     private static void items() {
-        Check.sentence("Of an item: .. NONE if there is none such, or for another what");
+        Check.sentence("Of an item: [..] NONE if there is none such, or for another what.");
         QueryText x = Bounds.taken("select age, count, max(id) group by age");
         Bounds.row("item 0", Bounds.item(x, 0), 0, 13);
         Bounds.row("item 1", Bounds.item(x, 1), 1, -1);
@@ -269,7 +273,7 @@ public final class BoundsOfCallsTest {
     }
 
     private static void behindBy() {
-        Check.sentence("The field of a path behind by; NONE if there is none such");
+        Check.sentence("`int by(int i)`: The field of a path behind by; NONE if there is none such.");
         QueryText x = Bounds.taken("select count group by age, home.last.seen");
         Check.due("by(0)", x.by(0), 13);
         Check.due("by(1)", x.by(1), 6);
@@ -286,7 +290,7 @@ public final class BoundsOfCallsTest {
     }
 
     private static void steps() {
-        Check.sentence("Of a STEP: .. NONE if there is none such, or for another what");
+        Check.sentence("Of a STEP: [..] NONE if there is none such, or for another what.");
         QueryText x = Bounds.taken("select id where id = 1 or age = 2");
         Bounds.row("step 1", Bounds.step(x, 1), 3, 13, 0, 1, 1);
         Bounds.row("step 2", Bounds.step(x, 2), 7, -1, -1, -1, 0);
@@ -305,7 +309,8 @@ public final class BoundsOfCallsTest {
     }
 
     private static void stepParts() {
-        Check.sentence("1 its field, or NONE; 2 its OPERATOR .., or NONE; 3 the first literal .., or NONE");
+        Check.sentence("`int step(int i, int what)`: Of a STEP: 0 its KIND; 1 its field, or NONE; 2 its OPERATOR: "
+                + "[..] or NONE; 3 the first literal, the other field, or NONE; 4 how many literals;");
         QueryText x = Bounds.taken("select id where age is null and age is not null and age in (1, 2) and age > 3"
                 + " and age > id and not age > 4 or age > 5");
         Bounds.row("step 0", Bounds.step(x, 0), 0, 13, -1, -1, 0);
@@ -320,7 +325,8 @@ public final class BoundsOfCallsTest {
     }
 
     private static void literals() {
-        Check.sentence("A literal's TYPE (0 bool, 2 a NUMBER, 3 a TEXT); NONE if there is none such");
+        Check.sentence("`int literal(int i)`: A literal's TYPE (0 bool, 2 a NUMBER, 3 a TEXT); NONE if there is "
+                + "none such.");
         QueryText x = Bounds.taken("select id where id = 5 or name = '5' or paid = true or paid = false");
         Check.due("of an int it is 2 too", x.literal(0), 2);
         Check.due("literal(1)", x.literal(1), 3);
@@ -336,7 +342,7 @@ public final class BoundsOfCallsTest {
     }
 
     private static void numbers() {
-        Check.sentence("A NUMBER, or 1 of true; 0 of others, and if there is none such");
+        Check.sentence("`long number(int i)`: A NUMBER, or 1 of true; 0 of others, and if there is none such.");
         QueryText x = Bounds.taken("select id where id in (9223372036854775807, -9223372036854775808, 0, -1)"
                 + " or paid = true or paid = false or name = '7'");
         long[] due = {Long.MAX_VALUE, Long.MIN_VALUE, 0, -1, 1, 0, 0};
@@ -356,7 +362,7 @@ public final class BoundsOfCallsTest {
     }
 
     private static void lengths() {
-        Check.sentence("How many bytes a TEXT has; NONE if there is none such");
+        Check.sentence("`int length(int i)`: How many bytes a TEXT has; NONE if there is none such.");
         QueryText x = Bounds.taken("select id where name in ('', 'a', '\\x00\\'\\\\', '" + "b".repeat(255)
                 + "') or id = 5 or paid = true");
         int[] due = {0, 1, 3, 255, -1, -1, -1};
@@ -373,7 +379,7 @@ public final class BoundsOfCallsTest {
     }
 
     private static void bytes() {
-        Check.sentence("A byte of a TEXT; NONE if there is none such");
+        Check.sentence("`int byteOf(int i, int k)`: A byte of a TEXT; NONE if there is none such.");
         QueryText x = Bounds.taken("select id where name in ('', 'a', '\\xff\\x00', '" + "b".repeat(254)
                 + "c') or id = 5 or paid = true");
         Check.due("byteOf(0, 0)", x.byteOf(0, 0), -1);

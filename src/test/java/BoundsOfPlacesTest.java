@@ -32,7 +32,8 @@ public final class BoundsOfPlacesTest {
     }
 
     private static void wordsAndSigns() {
-        Check.sentence("told by the place (from 0) where a word, sign .. begins that should not be there");
+        Check.sentence("CAN'T STAND: told by the place (from 0) where a word, sign, [..] begins that should not be "
+                + "there");
         Bounds.refused("@id");
         Bounds.refused(" \n @wherever");
         Bounds.refused("@, id");
@@ -53,7 +54,7 @@ public final class BoundsOfPlacesTest {
     }
 
     private static void numbersAndTexts() {
-        Check.sentence("where a .. NUMBER or TEXT begins that should not be there");
+        Check.sentence("where a [..] NUMBER or TEXT begins that should not be there");
         String[] literals = {"0", "12", "-12", "''", "'abc'", "'a\\'b'"};
         for (String literal : literals) {
             Bounds.refused("@" + literal);
@@ -108,7 +109,7 @@ public final class BoundsOfPlacesTest {
     }
 
     private static void endsOfAFullTape() {
-        Check.sentence("a text that ends too early by its size: at most 2000");
+        Check.sentence("a text that ends too early by its size", "of 2000 bytes");
         Bounds.refused(" ".repeat(2000) + "@");
         Bounds.refused(" ".repeat(1994) + "select@");
         Bounds.refused("select id where id =" + " ".repeat(1980) + "@");
@@ -120,7 +121,8 @@ public final class BoundsOfPlacesTest {
     }
 
     private static void pathsByTheirBeginning() {
-        Check.sentence("A PATH that names nothing, or isn't as TYPES want it, or is there twice, by its beginning");
+        Check.sentence("A PATH [..] that names nothing, or isn't as TYPES want it, or is there twice, by its "
+                + "beginning");
         Bounds.refused("select id,  @nothing");
         Bounds.refused("select id,  @home.nothing");
         Bounds.refused("select id,  @home.last.nothing");
@@ -243,7 +245,7 @@ public final class BoundsOfPlacesTest {
     }
 
     private static void tooManyAsTheyBegin() {
-        Check.sentence("What is met first counts: an item, path, not, ( too many as it begins");
+        Check.sentence("What is met first, reading on, counts: an item, path, not, ( too many as it begins");
         Bounds.refused(ITEMS_16 + ", @nothing");
         Bounds.refused(ITEMS_16 + ", @sum(name)");
         Bounds.refused(ITEMS_16 + ", @home.1");
@@ -261,7 +263,7 @@ public final class BoundsOfPlacesTest {
     }
 
     private static void pathsWhenRead() {
-        Check.sentence("What is met first counts: a PATH when it has been read");
+        Check.sentence("What is met first, reading on, counts: [..] a PATH [..] when it has been read");
         Bounds.refused("select @nothing #");
         Bounds.refused("select @nothing#");
         Bounds.refused("select nothing.@#");
@@ -277,7 +279,8 @@ public final class BoundsOfPlacesTest {
     }
 
     private static void literalsWhenRead() {
-        Check.sentence("What is met first counts: a .. literal (also one too many) when it has been read");
+        Check.sentence("What is met first, reading on, counts: [..] or literal (also one too many) when it has been "
+                + "read");
         Bounds.refused("select id where id = @'abc' #");
         Bounds.refused("select id where id = 'a@\\q'");
         Bounds.refused("select id where id = 'abc@");
@@ -294,7 +297,7 @@ public final class BoundsOfPlacesTest {
     }
 
     private static void stepsWhenAllHasBeenRead() {
-        Check.sentence("What is met first counts: a STEP when all that it joins or asks has been");
+        Check.sentence("What is met first, reading on, counts: [..] a STEP when all that it joins or asks has been");
         Bounds.refused(STEPS_63 + " or id@");
         Bounds.refused(STEPS_63 + " or @nothing");
         Bounds.refused(STEPS_63 + " @or id is null #");
@@ -308,13 +311,17 @@ public final class BoundsOfPlacesTest {
         Bounds.refused(STEPS_63 + " or id is null and id is@");
         Bounds.refused(STEPS_63 + " or id is null and id = @'a'");
         Bounds.refused(STEPS_63 + " or id is null and id in (1, @nothing");
+        Bounds.refused(STEPS_63 + " or id is null and id in (1@");
+        Bounds.refused(STEPS_63 + " or id is null and id in (1 @#");
+        Bounds.refused(STEPS_63 + " or id is null and id is not @#");
+        Bounds.refused(STEPS_63 + " or id is null and id = age.@#");
         Bounds.refused(STEPS_63 + " or id is null and @id in (1) #");
         Bounds.refused(STEPS_63 + " or id is null and @id = age #");
         Bounds.refused("select count, id where not " + STEPS_63.substring(16) + " or @id is null group by #");
     }
 
     private static void itemsAtTheEnd() {
-        Check.sentence("What is met first counts: ITEMS that aren't behind by at the end");
+        Check.sentence("What is met first, reading on, counts: [..] ITEMS that aren't behind by at the end");
         Bounds.refused("select id, count where @nothing = 1");
         Bounds.refused("select id, count @#");
         Bounds.refused("select id, name group by age @#");
@@ -343,6 +350,8 @@ public final class BoundsOfPlacesTest {
         kinds("id is null and id in (1) or id = id", 0, 2, 6, 4, 7);
         kinds("not (id is null or id in (1))", 0, 2, 7, 5);
         kinds("not id is null or id in (1)", 0, 5, 2, 7);
+        kinds("not id is null and id in (1)", 0, 5, 2, 6);
+        kinds("id is null and not id in (1) or id = 1", 0, 2, 5, 6, 3, 7);
         kinds("(id is null or id in (1)) and not id = 1", 0, 2, 7, 3, 5, 6);
         kinds("((id is null))", 0);
     }
@@ -358,14 +367,18 @@ public final class BoundsOfPlacesTest {
     }
 
     private static void literalsAsTheyCome() {
-        Check.sentence("Literals are numbered as they come");
-        QueryText x = Bounds.taken("select id where id in (7, 8) or (name = 'c' and not paid = true) or id > 9");
+        Check.sentence("Literals are numbered as they come.");
+        QueryText x = Bounds.taken("select id where id in (7, 8) or (name = 'c' and not paid = true) or id > 9"
+                + " or name in ('d', 'e')");
         Bounds.row("step 0", Bounds.step(x, 0), 2, 0, -1, 0, 2);
         Bounds.row("step 1", Bounds.step(x, 1), 3, 1, 0, 2, 1);
         Bounds.row("step 2", Bounds.step(x, 2), 3, 11, 0, 3, 1);
         Bounds.row("step 6", Bounds.step(x, 6), 3, 0, 4, 4, 1);
-        int[] types = {x.literal(0), x.literal(1), x.literal(2), x.literal(3), x.literal(4)};
-        Bounds.row("types", types, 2, 2, 3, 0, 2);
+        Bounds.row("step 8", Bounds.step(x, 8), 2, 1, -1, 5, 2);
+        int[] types = {x.literal(0), x.literal(1), x.literal(2), x.literal(3), x.literal(4), x.literal(5)};
+        Bounds.row("types", types, 2, 2, 3, 0, 2, 3);
+        Bounds.row("text 2", Bounds.text(x, 2), 'c');
+        Bounds.row("text 6", Bounds.text(x, 6), 'e');
         Check.due("number(1)", x.number(1), 8);
         Check.due("number(4)", x.number(4), 9);
     }

@@ -37,12 +37,16 @@ public final class BoundsOfQueryTest {
     }
 
     private static void parts() {
-        Check.sentence("select ITEM , ITEM .. , perhaps where CONDITION, perhaps group by PATH , PATH ..");
+        Check.sentence("A QUERY: select ITEM , ITEM .. , perhaps where CONDITION, perhaps group by PATH , PATH .. .");
         Bounds.row("counts", Bounds.counts(Bounds.taken("select id")), 1, 0, 0, 0, 0);
         Bounds.row("counts", Bounds.counts(Bounds.taken("select id, id where id = 1")), 2, 0, 1, 1, 0);
         Bounds.row("counts", Bounds.counts(Bounds.taken("select id group by id, age")), 1, 2, 0, 0, 1);
         Bounds.row("counts", Bounds.counts(Bounds.taken("select id where id = 1 group by id")), 1, 1, 1, 1, 1);
         Bounds.refused("@");
+        Bounds.refused("@id");
+        Bounds.refused("@id where id = 1");
+        Bounds.refused("@where id = 1");
+        Bounds.refused("@group by id");
         Bounds.refused("select@");
         Bounds.refused("select @where id = 1");
         Bounds.refused("select @group by id");
@@ -79,7 +83,7 @@ public final class BoundsOfQueryTest {
     }
 
     private static void manyBehindBy() {
-        Check.sentence("At most .. 8 paths behind by");
+        Check.sentence("At most 16 items, 8 paths behind by");
         QueryText x = Bounds.withFields(10, 0, 1);
         String eight = "select count group by f0,f1,f2,f3,f4,f5,f6,f7";
         Bounds.refused(x, eight + ",@f8");
@@ -174,7 +178,8 @@ public final class BoundsOfQueryTest {
     }
 
     private static void testForms() {
-        Check.sentence("TEST: not TEST, ( CONDITION ), or PATH and one of: is null; is not null; in ..; ..");
+        Check.sentence("TEST: not TEST, ( CONDITION ), or PATH and one of: is null; is not null; in [..] an "
+                + "OPERATOR and a LITERAL or PATH.");
         Bounds.row("step 0", Bounds.step(Bounds.taken("select id where id is null"), 0), 0, 0, -1, -1, 0);
         Bounds.row("step 0", Bounds.step(Bounds.taken("select id where id is not null"), 0), 1, 0, -1, -1, 0);
         Bounds.row("step 0", Bounds.step(Bounds.taken("select id where id in (4)"), 0), 2, 0, -1, 0, 1);
@@ -272,7 +277,7 @@ public final class BoundsOfQueryTest {
     }
 
     private static void numbersInFront() {
-        Check.sentence("a NUMBER (perhaps - , digits without a 0 in front, not - 0 ..)");
+        Check.sentence("a NUMBER (perhaps - , digits without a 0 in front, not - 0");
         number("0", 0L);
         number("1", 1L);
         number("9", 9L);
@@ -298,7 +303,7 @@ public final class BoundsOfQueryTest {
     }
 
     private static void numbersIn64Bits() {
-        Check.sentence("a NUMBER .. in 64 bits");
+        Check.sentence("a NUMBER (perhaps [..] in 64 bits");
         number("2147483647", 2147483647L);
         number("2147483648", 2147483648L);
         number("-2147483649", -2147483649L);
@@ -324,7 +329,7 @@ public final class BoundsOfQueryTest {
     }
 
     private static void textLengths() {
-        Check.sentence("a TEXT ( ' , at most 255 bytes .. ' )");
+        Check.sentence("a TEXT ( ' , at most 255 bytes");
         String[] sorts = {"a", "\\'", "\\\\", "\\x00"};
         for (String sort : sorts) {
             for (int length = 0; length <= 255; length += length == 0 ? 1 : 127) {
@@ -366,7 +371,7 @@ public final class BoundsOfQueryTest {
     }
 
     private static void textEscapes() {
-        Check.sentence("but \\ before ' or itself stands for these, and before x and two digits .. for that byte");
+        Check.sentence("but \\ before ' or itself stands for these, and before x and two digits [..] for that byte");
         for (int b = 0; b < 256; b++) {
             char c = (char) b;
             if (c == '\'' || c == '\\') {
@@ -417,7 +422,7 @@ public final class BoundsOfQueryTest {
     }
 
     private static void nestedAgain() {
-        Check.sentence("At most 32 not, ( in one another: those that have ended don't count");
+        Check.sentence("At most 32 not, ( in one another in a condition", "those that have ended don't count");
         String deep = "(".repeat(32) + "id = 1" + ")".repeat(32);
         QueryText x = Bounds.taken("select id where " + deep + " and " + deep + " or " + deep);
         Check.due("count(2)", x.count(2), 5);
@@ -496,7 +501,8 @@ public final class BoundsOfQueryTest {
     }
 
     private static void flatNoGroups() {
-        Check.sentence("PATHS in a condition, behind by, and in count ( .. ) and the others, are FLAT and no groups");
+        Check.sentence("TYPES: PATHS in a condition, behind by, and in count ( .. ) and the others, are FLAT and no "
+                + "groups");
         String[] words = {"count", "sum", "min", "max"};
         for (String path : NOT_FLAT_OR_GROUPS) {
             Bounds.taken("select " + path);

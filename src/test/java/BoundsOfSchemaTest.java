@@ -25,7 +25,7 @@ public final class BoundsOfSchemaTest {
     }
 
     private static void manyFields() {
-        Check.sentence("FIELDS, at most 64, numbered from 0");
+        Check.sentence("FIELDS, at most 64, numbered from 0, make the SCHEMA");
         QueryText x = Bounds.withFields(64, 0, 1);
         Check.stands(x, "select f0, f63 where f0 = f63");
         Check.due("the 65th", Check.field(x, -1, 0, 1, "g"), -1);
@@ -43,7 +43,7 @@ public final class BoundsOfSchemaTest {
     }
 
     private static void nameBytes() {
-        Check.sentence("a NAME (a letter and letters, digits, _ )");
+        Check.sentence("each has a NAME (a letter and letters, digits, _ ;");
         for (int b = 0; b < 256; b++) {
             nameOf("" + (char) b, Bounds.isLetter(b));
             nameOf("a" + (char) b, Bounds.isWordByte(b));
@@ -136,7 +136,7 @@ public final class BoundsOfSchemaTest {
     }
 
     private static void types() {
-        Check.sentence("has a TYPE: 0 bool, 1 int, 2 long, 3 text, 4 group");
+        Check.sentence("and has a TYPE: 0 bool, 1 int, 2 long, 3 text, 4 group");
         QueryText x = new QueryText();
         int[] none = {-1, 5, Integer.MAX_VALUE, Integer.MIN_VALUE};
         for (int type : none) {
@@ -173,7 +173,7 @@ public final class BoundsOfSchemaTest {
     }
 
     private static void flatnessFarDown() {
-        Check.sentence("A field is FLAT if neither it nor a group around it is repeated (64 fields in one another)");
+        Check.sentence("A field is FLAT if neither it nor a group around it is repeated", "64 fields in one another");
         for (int repeated = -1; repeated < 64; repeated++) {
             QueryText x = new QueryText();
             StringBuilder path = new StringBuilder("g");
@@ -292,12 +292,14 @@ public final class BoundsOfSchemaTest {
                 Bounds.taken(x, "select " + c + "z9_");
             } else if (b != 32 && b != 10) {
                 Bounds.refused(x, "select @" + c + "z9_");
+                Bounds.refused(x, "select @" + c + "z9_.1");
             }
         }
     }
 
     private static void reserved() {
-        Check.sentence("The words select, where .. max are no names in a query");
+        Check.sentence("The words select, where, group, by, and, or, not, is, null, in, true, false, count, sum, "
+                + "min, max are no names in a query");
         for (int i = 0; i < RESERVED.length; i++) {
             String word = RESERVED[i];
             QueryText x = new QueryText();
@@ -316,7 +318,7 @@ public final class BoundsOfSchemaTest {
     }
 
     private static void nearlyReserved() {
-        Check.sentence("The words select, where .. max are no names in a query: others are");
+        Check.sentence("The words [..] are no names in a query", "others are");
         for (String word : RESERVED) {
             String capital = word.substring(0, 1).toUpperCase() + word.substring(1);
             String[] near = {word.substring(0, word.length() - 1), word + "s", word + "_", word + "1", capital,

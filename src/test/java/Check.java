@@ -1,7 +1,11 @@
+import java.util.ArrayList;
+import java.util.List;
+
 /** What the tests share: texts instead of numbers for feed, and the count of wrong answers. */
 final class Check {
     private static int wrong = 0;
     private static String sentence = "";
+    private static final List<String> quoted = new ArrayList<>();
 
     private Check() {
     }
@@ -13,9 +17,25 @@ final class Check {
         }
     }
 
-    /** The document's sentence that the next calls are about: it is told with each wrong answer. */
+    /** The document's sentence that the next calls are about: its own words, [..] for words left out. */
     static void sentence(String words) {
+        quoted.add(words);
         sentence = "\"" + words + "\": ";
+    }
+
+    static void sentence(String words, String note) {
+        sentence(words);
+        sentence = "\"" + words + "\", " + note + ": ";
+    }
+
+    /** The next calls are about no one sentence. */
+    static void noSentence() {
+        sentence = "";
+    }
+
+    /** The sentences that tests of this run were about. */
+    static List<String> quoted() {
+        return quoted;
     }
 
     static void end() {
